@@ -31,6 +31,13 @@ public final class BusTest {
         int now = x.bus(4);
         x.give();
         CHECKS.due("as told", x.bus(4), now + 10);
+        for (int d = 0; d < 6; d++) {
+            TalkBus y = new TalkBus();
+            y.ask(d, 63, 0);
+            CHECKS.due("bus(5), a status alone", y.bus(5), 0);
+            y.ask(d, 0, 1);
+            CHECKS.due("bus(5), " + d + " asks", y.bus(5), 1);
+        }
     }
 
     private static void sum() {

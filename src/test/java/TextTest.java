@@ -13,6 +13,7 @@ public final class TextTest {
         lay();
         layBeginsAnew();
         layRefused();
+        nothingStaysOfEarlierLetters();
         CHECKS.end("TextTest");
     }
 
@@ -169,6 +170,9 @@ public final class TextTest {
         x.lay();
         x.command(107);
         CHECKS.due("a 5 ahead of lay prepares none", x.device(1, 11), TalkBus.NONE);
+        x.command(24);
+        x.lay();
+        CHECKS.due("polling is off behind lay", x.bus(3), 0);
         x.command(71);
         x.lay();
         x.command(97);
@@ -186,6 +190,21 @@ public final class TextTest {
             String before = Checks.stateOf(x);
             CHECKS.due("lay() of " + text, x.lay(), TalkBus.NO);
             CHECKS.holds("nothing changed by lay() of " + text, before.equals(Checks.stateOf(x)));
+        }
+    }
+
+    private static void nothingStaysOfEarlierLetters() {
+        TalkBus x = new TalkBus();
+        Checks.tell(x, HOST);
+        CHECKS.due("lay()", x.lay(), 1);
+        x.wipe();
+        CHECKS.due("lay() of nothing", x.lay(), TalkBus.NO);
+        CHECKS.due("bus(7)", x.bus(7), 1);
+        for (int n = 1; n < HOST.length(); n++) {
+            x.wipe();
+            Checks.tell(x, HOST.substring(0, n));
+            CHECKS.due("fault(), the old letters behind it", x.fault(), 0);
+            CHECKS.due("lay(), the old letters behind it", x.lay(), TalkBus.NO);
         }
     }
 }
