@@ -50,16 +50,26 @@ final class Checks {
             for (int what = 0; what <= 17; what++) {
                 all.append(x.device(d, what)).append(' ');
             }
-            for (int i = 0; i < 12; i++) {
-                all.append(x.row(d, 0, i)).append(' ').append(x.row(d, 1, i)).append(' ');
-            }
+            appendRow(all, x, d, 0, x.device(d, 15));
+            appendRow(all, x, d, 1, x.device(d, 16));
         }
-        for (int i = -1; i < 16; i++) {
+        int kept = x.log(-1, 0);
+        for (int i = 0; i < kept; i++) {
             for (int what = 0; what <= 2; what++) {
                 all.append(x.log(i, what)).append(' ');
             }
         }
         return all.append(x.fault()).toString();
+    }
+
+    private static void appendRow(StringBuilder all, TalkBus x, int d, int of, int bytes) {
+        for (int i = 0; i < bytes; i++) {
+            all.append(x.row(d, of, i)).append(' ');
+        }
+    }
+
+    int asked() {
+        return asked;
     }
 
     void end(String test) {
