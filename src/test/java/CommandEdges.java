@@ -32,6 +32,7 @@ final class CommandEdges {
         linesBySecond();
         secondsOfNamed();
         allOthers();
+        nothingBesides();
     }
 
     private static TalkBus sent(int... commands) {
@@ -685,5 +686,76 @@ final class CommandEdges {
         for (int c : MEANT_FOR_NOTHING) {
             edges.due("device(1, 11) behind " + c, sent(36, 5, c, 99).device(1, 11), NONE);
         }
+    }
+
+    /** Listeners 1 and 2 with lines, host 5 talks, all ask and have bytes, a reading is due. */
+    private static TalkBus busy(int polling) {
+        TalkBus x = sent(36, 39, 97, 5, 99, 85, polling);
+        x.tune(1, 1, 60);
+        x.command(8);
+        for (int d = 0; d < 6; d++) {
+            x.put(d, 100 + d);
+            x.ask(d, 10 + d, 1);
+        }
+        return x;
+    }
+
+    private static boolean isOneOf(int[] all, int what) {
+        for (int one : all) {
+            if (one == what) {
+                return true;
+            }
+        }
+        return false;
+    }
+
+    /** All but these stays as if the command's ticks alone had gone by. */
+    private void leavesAllBut(int c, int[] ofDevices, int[] ofBus) {
+        edges.at(c + " leaves all but what it is told to change");
+        for (int polling = 24; polling <= 25; polling++) {
+            TalkBus x = busy(polling);
+            TalkBus y = busy(polling);
+            x.command(c);
+            y.tick(5);
+            for (int d = 0; d < 6; d++) {
+                for (int what = 0; what <= 17; what++) {
+                    if (!isOneOf(ofDevices, what)) {
+                        edges.due("device(" + d + ", " + what + ")", x.device(d, what), y.device(d, what));
+                    }
+                }
+            }
+            for (int what = 0; what <= 8; what++) {
+                if (!isOneOf(ofBus, what)) {
+                    edges.due("bus(" + what + ")", x.bus(what), y.bus(what));
+                }
+            }
+        }
+    }
+
+    private void nothingBesides() {
+        int[] none = {};
+        int[] cleared = {9, 10, 14, 15, 16};
+        int[] askedOrGiven = {5, 6};
+        edges.sentence(6, "What it does:");
+        leavesAllBut(1, new int[] {7}, none);
+        leavesAllBut(4, cleared, none);
+        leavesAllBut(5, none, none);
+        leavesAllBut(8, new int[] {13, 14}, none);
+        leavesAllBut(9, new int[] {5}, new int[] {0, 2, 6});
+        leavesAllBut(17, new int[] {8}, none);
+        leavesAllBut(20, cleared, askedOrGiven);
+        leavesAllBut(21, new int[] {11, 12}, none);
+        leavesAllBut(24, none, new int[] {3});
+        leavesAllBut(25, none, new int[] {3});
+        leavesAllBut(41, new int[] {6, 7}, new int[] {1, 6});
+        leavesAllBut(39, new int[] {17}, none);
+        leavesAllBut(63, new int[] {6}, new int[] {1, 6});
+        leavesAllBut(73, new int[] {5}, new int[] {0});
+        leavesAllBut(71, new int[] {5, 17}, new int[] {0, 6});
+        leavesAllBut(95, new int[] {5}, new int[] {0, 6});
+        leavesAllBut(96, none, none);
+        leavesAllBut(97, none, none);
+        leavesAllBut(126, none, none);
+        leavesAllBut(127, none, none);
     }
 }

@@ -211,10 +211,17 @@ final class TextEdges {
         edges.due("bus(7)", laid.bus(7), 2);
         edges.due("bus(1)", laid.bus(1), 2);
         edges.at("letters of before do not come again");
-        TalkBus again = told(HOST);
-        again.wipe();
-        again.write('d');
-        edges.due("fault()", again.fault(), 0);
+        for (int n = 1; n < HOST.length(); n++) {
+            TalkBus again = told(HOST);
+            again.wipe();
+            Checks.tell(again, HOST.substring(0, n));
+            edges.due("fault() of the first " + n, again.fault(), 0);
+        }
+        edges.at("what was laid can not be laid again by an empty text");
+        laid.wipe();
+        edges.due("fault()", laid.fault(), NONE);
+        edges.due("lay()", laid.lay(), NO);
+        edges.due("bus(7)", laid.bus(7), 2);
     }
 
     // ---- promise 4
