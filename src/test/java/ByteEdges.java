@@ -10,6 +10,7 @@ final class ByteEdges {
     }
 
     void run() {
+        givenOrNo();
         nobodyTalks();
         nobodyListens();
         emptyOut();
@@ -56,6 +57,21 @@ final class ByteEdges {
     }
 
     // ---- promise 7, when it can not be
+
+    private void givenOrNo() {
+        edges.sentence(7, "A BYTE is GIVEN: it. NO: it can not be.");
+        edges.at("bytes 0 and 255 are no refusals");
+        edges.due("give()", with(sent(32, 85), 5, 0).give(), 0);
+        edges.due("give()", with(sent(32, 85), 5, 255).give(), 255);
+        edges.at("NO");
+        edges.due("give()", new TalkBus().give(), NO);
+        edges.at("given, then NO, then given");
+        TalkBus x = with(sent(32, 85), 5, 1);
+        edges.due("give()", x.give(), 1);
+        edges.due("give()", x.give(), NO);
+        edges.due("give()", with(x, 5, 2).give(), 2);
+        edges.due("sum(1)", x.sum(1), 2);
+    }
 
     private void nobodyTalks() {
         edges.sentence(7, "It can not be GIVEN, if nobody TALKS,");

@@ -15,6 +15,7 @@ final class CommandEdges {
         ticksOfCommands();
         readingsComeFirst();
         prepared();
+        preparedForTheNext();
         named();
         notRemote();
         clearedListeners();
@@ -204,6 +205,24 @@ final class CommandEdges {
         edges.due("device(1, 11)", x.device(1, 11), NONE);
     }
 
+    private void preparedForTheNext() {
+        edges.sentence(6, "nothing but that who LISTENS is PREPARED for the next one.");
+        edges.at("nobody listens");
+        edges.due("parallel()", sent(5, 96).parallel(), 0);
+        edges.at("all listen");
+        TalkBus x = sent(32, 36, 39, 97, 39, 98, 41, 53, 5, 100);
+        for (int d = 0; d < 6; d++) {
+            edges.due("device(" + d + ", 11)", x.device(d, 11), 4);
+        }
+        edges.at("a line of before stays till the next one, and by one that is none");
+        x = sent(36, 5, 99, 5);
+        edges.due("device(1, 11)", x.device(1, 11), 3);
+        x.command(95);
+        edges.due("device(1, 11)", x.device(1, 11), 3);
+        edges.at("the next one, but not that behind it");
+        edges.due("device(1, 11)", sent(36, 5, 96, 112).device(1, 11), 0);
+    }
+
     private void named() {
         edges.sentence(6, "NAMED are DEVICES just till the next COMMAND");
         edges.at("ticks, bytes, looks between");
@@ -224,6 +243,13 @@ final class CommandEdges {
         x = sent(39, 5, 97);
         edges.due("device(2, 6)", x.device(2, 6), 0);
         edges.due("device(2, 11)", x.device(2, 11), NONE);
+        edges.sentence(6, "(that is, its ADDRESS was told, and its SECOND is awaited)");
+        edges.at("all of that address that have a second, none of another");
+        x = sent(39);
+        int[] names = {0, 0, 1, 1, 0, 0};
+        for (int d = 0; d < 6; d++) {
+            edges.due("device(" + d + ", 17)", x.device(d, 17), names[d]);
+        }
         edges.sentence(6, "then none is but those that it names itself");
         edges.at("named to talk in place of to listen, and back");
         x = sent(39, 71);

@@ -33,18 +33,18 @@ public final class DeviceTest {
     }
 
     private static void noSuchDevice() {
-        TalkBus x = new TalkBus();
         for (int d : FAR) {
-            allBad(x, d);
+            allBad(new TalkBus(), d);
         }
-        allBad(x, TalkBus.NONE);
+        allBad(new TalkBus(), TalkBus.NONE);
     }
 
     private static void fewerDevices() {
-        TalkBus x = Checks.laid("d2,0,31,1,0;d1,4,31,2,5;");
+        String two = "d2,0,31,1,0;d1,4,31,2,5;";
         for (int d = 2; d < 7; d++) {
-            allBad(x, d);
+            allBad(Checks.laid(two), d);
         }
+        TalkBus x = Checks.laid(two);
         CHECKS.due("put(1, 5)", x.put(1, 5), 1);
         x.command(41);
         CHECKS.due("a device of earlier does not listen", x.bus(1), 0);

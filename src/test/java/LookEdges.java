@@ -25,6 +25,7 @@ final class LookEdges {
         sumsSinceLaid();
         whatOfTheLog();
         logOfSixteen();
+        howManyInTheLog();
         logNotSoMany();
         logTells();
         orderOfRefusals();
@@ -479,6 +480,25 @@ final class LookEdges {
         x.takeBack();
         edges.due("log(-1, 0)", x.log(-1, 0), 2);
         edges.due("log(0, 1)", x.log(0, 1), 85);
+    }
+
+    private void howManyInTheLog() {
+        edges.sentence(21, "THE LOG: how many COMMANDS (i = -1);");
+        edges.at("none, one, 15, 16, and 16 behind more");
+        TalkBus x = new TalkBus();
+        for (int n = 0; n <= 18; n++) {
+            for (int what = 0; what <= 2; what++) {
+                edges.due("log(-1, " + what + ") of " + n, x.log(-1, what), n < 16 ? n : 16);
+            }
+            x.command(0);
+        }
+        edges.at("none behind lay, then one");
+        Checks.tell(x, "d2,0,31,1,0;");
+        x.lay();
+        edges.due("log(-1, 0)", x.log(-1, 0), 0);
+        x.command(0);
+        edges.due("log(-1, 0)", x.log(-1, 0), 1);
+        edges.due("log(1, 1)", x.log(1, 1), NONE);
     }
 
     private void logNotSoMany() {

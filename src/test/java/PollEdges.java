@@ -17,6 +17,7 @@ final class PollEdges {
         whatWasGiven();
         behindPolls();
         linesThatAnswer();
+        bitsOfLines();
         tickOfParallel();
         takenBack();
         whoWasInCharge();
@@ -290,6 +291,17 @@ final class PollEdges {
         x.parallel();
         edges.due("device(1, 10)", x.device(1, 10), 1);
         edges.due("parallel()", x.parallel(), 1);
+    }
+
+    private void bitsOfLines() {
+        edges.sentence(10, "POLLED at once: bits of LINES.");
+        edges.at("each line has its own bit: 1 to 128");
+        for (int line = 0; line < 8; line++) {
+            edges.due("parallel() of line " + line, lined(96 + line, 0).parallel(), 1 << line);
+            edges.due("parallel() of line " + line, lined(104 + line, 1).parallel(), 1 << line);
+        }
+        edges.at("lines 0 and 7");
+        edges.due("parallel()", sent(36, 5, 96, 63, 41, 5, 103).parallel(), 129);
     }
 
     private void tickOfParallel() {

@@ -30,6 +30,8 @@ final class TextEdges {
         formOfItems();
         likeAddresses();
         placeOfFault();
+        placeOfLikeAddress();
+        nextDevice();
         laidWithoutFault();
         laidWithHost();
         laidAsAtFirst();
@@ -413,7 +415,37 @@ final class TextEdges {
         fault(HOST + "x".repeat(188), 12);
     }
 
+    private void placeOfLikeAddress() {
+        edges.sentence(4, "or that has the ADDRESS of an earlier one (but as told above).");
+        edges.at("the later of the two is the fault");
+        fault(HOST + "d0,1,31,1,0;d0,1,31,1,0;", 24);
+        edges.at("three alike: the second");
+        fault(HOST + "d0,0,31,1,0;d0,0,31,1,0;", 12);
+        edges.at("like, but it is not as items are behind its address: its place all the same");
+        fault(HOST + "d0,0,31,1,", 12);
+        edges.at("a fault ahead of it comes first");
+        fault("d2,0,31,0,0;d0,0,31,1,0;", 0);
+        edges.at("addresses of an earlier text do not matter");
+        TalkBus x = told(HOST + "d0,5,31,1,0;");
+        x.fault();
+        x.wipe();
+        Checks.tell(x, "d2,5,31,1,0;");
+        edges.due("fault()", x.fault(), NONE);
+    }
+
     // ---- promise 5
+
+    private void nextDevice() {
+        edges.sentence(5, "KIND, ADDRESS, SECOND, PACE, DELAY of the next DEVICE");
+        edges.at("in this order, device by device, of one and of two figures");
+        TalkBus x = Checks.laid("d2,3,4,5,6;d01,30,07,08,09;d0,10,11,1,12;");
+        int[][] want = {{2, 3, 4, 5, 6}, {1, 30, 7, 8, 9}, {0, 10, 11, 1, 12}};
+        for (int d = 0; d < 3; d++) {
+            for (int what = 0; what <= 4; what++) {
+                edges.due("device(" + d + ", " + what + ")", x.device(d, what), want[d][what]);
+            }
+        }
+    }
 
     private void laidWithoutFault() {
         edges.sentence(5, "LAID is a TEXT without FAULT");
